@@ -411,7 +411,8 @@ public final class AffineRanges {
 
     /** A list of boxes; a box can have a rank (the least is the worst) and the input to split it by. */
     private static final class BoxList {
-        static final long WILD = Long.MIN_VALUE;
+        // Below all ranks of forms that are not wild.
+        static final long WILD = GONE;
 
         private final int[] los = new int[MOST_BOXES * ALL_INPUTS];
         private final int[] his = new int[MOST_BOXES * ALL_INPUTS];
@@ -555,7 +556,7 @@ public final class AffineRanges {
                 case START: return c == '-' ? hold(NEGATE, OPERAND) : takeOperand(c);
                 case OPERAND: return takeOperand(c);
                 case BRACKET: return c == '(' && hold(opened, START);
-                case WHOLE: return takeInWhole(c);
+                case WHOLE: return isDigit(c) || c == '.' ? takeInWhole(c) : takeBehind(c);
                 case POINT: return isDigit(c) && addDigit(c, 10, FRACTION);
                 case FRACTION: return isDigit(c) ? addDigit(c, 1, ATOM) : takeBehind(c);
                 case POWER: return takePower(c);
@@ -588,7 +589,6 @@ public final class AffineRanges {
                 at = POINT;
                 return true;
             }
-            if (!isDigit(c)) return takeBehind(c);
             int value = made.lastValue();
             // A zero stands alone, and a fourth digit has no place.
             if (value == 0 || value >= 10000) return false;
@@ -792,11 +792,11 @@ public final class AffineRanges {
         void multiply(Form x, Form y) {
             long product = x.center * y.center;
             center = product >> 8;
-            long rounded = isRounded(product, 8);
+            long rounded = roundings(product, 8);
             for (int s = 0; s < ALL_SYMBOLS; s++) {
                 long sum = x.center * y.coefficients[s] + y.center * x.coefficients[s];
                 coefficients[s] = sum >> 8;
-                rounded += isRounded(sum, 8);
+                rounded += roundings(sum, 8);
             }
             long rest = Math.abs(x.center) * y.loose + Math.abs(y.center) * x.loose + x.radius * y.radius;
             loose = roundedUp(rest, 8) + rounded;
@@ -811,11 +811,11 @@ public final class AffineRanges {
         void square(Form x) {
             long sum = 2 * x.center * x.center + x.radius * x.radius;
             center = sum >> 9;
-            long rounded = isRounded(sum, 9);
+            long rounded = roundings(sum, 9);
             for (int s = 0; s < ALL_SYMBOLS; s++) {
                 long product = 2 * x.center * x.coefficients[s];
                 coefficients[s] = product >> 8;
-                rounded += isRounded(product, 8);
+                rounded += roundings(product, 8);
             }
             loose = roundedUp(4 * Math.abs(x.center) * x.loose + x.radius * x.radius, 9) + rounded;
             long one = x.lo * x.lo;
@@ -863,7 +863,7 @@ public final class AffineRanges {
             return value > LARGEST || value < -LARGEST;
         }
 
-        private static int isRounded(long value, int bits) {
+        private static int roundings(long value, int bits) {
             return (value & ((1L << bits) - 1)) == 0 ? 0 : 1;
         }
 

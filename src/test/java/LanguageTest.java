@@ -10,7 +10,7 @@ final class LanguageTest {
     private static final String[] FORBIDDEN = {
         "\\bthrow\\b", "\\bthrows\\b", "\\btry\\b", "\\bcatch\\b", "\\bfinally\\b", "\\bsynchronized\\b", "\\bassert\\b", "\\bvolatile\\b",
         "->", "::", "\\bdouble\\b", "\\bfloat\\b", "\\bpackage\\b", "\\bprotected\\b", "Exact\\s*\\(", "\\bSystem\\s*\\.\\s*(?!arraycopy)", "\\bThread\\b",
-        "\\bequals\\s*\\(", "\\bhashCode\\b", "\\btoString\\b", "\\bObject\\b", "\\bvar\\b", "static\\s*\\{", "while\\s*\\(\\s*true", "for\\s*\\(\\s*;",
+        "\\bequals\\s*\\(", "\\bhashCode\\b", "\\btoString\\b", "\\bObject\\b", "\\bvar\\b", "\\b(Integer|Long|Math)\\s*\\.\\s*[A-Z]", "static\\s*\\{", "while\\s*\\(\\s*true", "for\\s*\\(\\s*;",
         "import(?! java\\.util\\.(Arrays|ArrayList|List|Iterator);)",
     };
 
