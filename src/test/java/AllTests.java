@@ -9,7 +9,7 @@ public final class AllTests {
             System.out.println("AllTests: the path of AffineRanges.java is wanted");
             System.exit(1);
         }
-        String[] groups = {"Examples", "Inputs", "Texts", "Evaluation", "Splitting", "Saving", "Face", "Language", "Room", "Model"};
+        String[] groups = {"Examples", "Sentences", "Inputs", "Texts", "Evaluation", "Splitting", "Saving", "Face", "Language", "Room", "Model"};
         int wrong = 0;
         for (String group : groups) {
             Check check = new Check(group);
@@ -23,6 +23,7 @@ public final class AllTests {
     private static void run(String group, Check check, String source) throws Exception {
         switch (group) {
             case "Examples": ExamplesTest.run(check); break;
+            case "Sentences": SentencesTest.run(check); break;
             case "Inputs": InputsTest.run(check); break;
             case "Texts": TextsTest.run(check); break;
             case "Evaluation": EvaluationTest.run(check); break;

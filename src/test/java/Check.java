@@ -21,6 +21,10 @@ final class Check {
         }
     }
 
+    int right() {
+        return right;
+    }
+
     int wrong() {
         return wrong;
     }

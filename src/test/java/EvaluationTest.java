@@ -22,78 +22,56 @@ final class EvaluationTest {
         wrongComparisons(check);
     }
 
-    /** A form: center, loose part, plain ends, best ends, then pairs of a symbol and its coefficient; all others are 0. */
-    private static void form(Check check, String name, AffineRanges x, long... want) {
-        check.due(name + ": reason", x.reason(0), 0);
-        check.due(name + ": center", x.part(0, 12), want[0]);
-        check.due(name + ": loose part", x.part(0, 13), want[1]);
-        check.due(name + ": plain lower end", x.bound(0, 1, 0), want[2]);
-        check.due(name + ": plain upper end", x.bound(0, 1, 1), want[3]);
-        check.due(name + ": best lower end", x.bound(0, 2, 0), want[4]);
-        check.due(name + ": best upper end", x.bound(0, 2, 1), want[5]);
-        long[] coefficients = new long[12];
-        long radius = want[1];
-        for (int i = 6; i + 1 < want.length; i += 2) {
-            coefficients[(int) want[i]] = want[i + 1];
-            radius += Math.abs(want[i + 1]);
-        }
-        for (int s = 0; s < 12; s++) check.due(name + ": coefficient " + s, x.part(0, s), coefficients[s]);
-        check.due(name + ": radius", x.part(0, 14), radius);
-        check.due(name + ": affine lower end", x.bound(0, 0, 0), want[0] - radius);
-        check.due(name + ": affine upper end", x.bound(0, 0, 1), want[0] + radius);
-        check.due(name + ": gain", x.gain(0), want[3] - want[2] - 2 * radius);
-    }
-
     private static void simpleForms(Check check) {
-        form(check, "0.5", Calls.with("0.5"), 128, 0, 128, 128, 128, 128);
-        form(check, "0.33", Calls.with("0.33"), 84, 1, 84, 85, 84, 85);
-        form(check, "999.99", Calls.with("999.99"), 255997, 1, 255997, 255998, 255997, 255998);
-        form(check, "0", Calls.with("0"), 0, 0, 0, 0, 0, 0);
-        form(check, "3..8", Calls.over(Calls.with("a"), 3, 8), 5, 0, 3, 8, 3, 8, 0, 3);
-        form(check, "-8..-3", Calls.over(Calls.with("b"), 0, 0, -8, -3), -6, 0, -8, -3, -8, -3, 1, 3);
-        form(check, "7..7", Calls.over(Calls.with("d"), 0, 0, 0, 0, 0, 0, 7, 7), 7, 0, 7, 7, 7, 7);
-        form(check, "0..1", Calls.over(Calls.with("c"), 0, 0, 0, 0, 0, 1), 0, 0, 0, 1, 0, 1, 2, 1);
-        form(check, "a+b", Calls.over(Calls.with("a+b"), 3, 8, -8, -3), -1, 0, -5, 5, -5, 5, 0, 3, 1, 3);
-        form(check, "a-b", Calls.over(Calls.with("a-b"), 3, 8, -8, -3), 11, 0, 6, 16, 6, 16, 0, 3, 1, -3);
-        form(check, "-a", Calls.over(Calls.with("-a"), 3, 8), -5, 0, -8, -3, -8, -3, 0, -3);
-        form(check, "0.33+0.67", Calls.with("0.33+0.67"), 255, 2, 255, 257, 255, 257);
-        form(check, "0.33-0.67", Calls.with("0.33-0.67"), -87, 2, -88, -86, -88, -86);
-        form(check, "-0.33", Calls.with("-0.33"), -84, 1, -85, -84, -85, -84);
+        Forms.due(check, "0.5", Calls.with("0.5"), 128, 0, 128, 128, 128, 128);
+        Forms.due(check, "0.33", Calls.with("0.33"), 84, 1, 84, 85, 84, 85);
+        Forms.due(check, "999.99", Calls.with("999.99"), 255997, 1, 255997, 255998, 255997, 255998);
+        Forms.due(check, "0", Calls.with("0"), 0, 0, 0, 0, 0, 0);
+        Forms.due(check, "3..8", Calls.over(Calls.with("a"), 3, 8), 5, 0, 3, 8, 3, 8, 0, 3);
+        Forms.due(check, "-8..-3", Calls.over(Calls.with("b"), 0, 0, -8, -3), -6, 0, -8, -3, -8, -3, 1, 3);
+        Forms.due(check, "7..7", Calls.over(Calls.with("d"), 0, 0, 0, 0, 0, 0, 7, 7), 7, 0, 7, 7, 7, 7);
+        Forms.due(check, "0..1", Calls.over(Calls.with("c"), 0, 0, 0, 0, 0, 1), 0, 0, 0, 1, 0, 1, 2, 1);
+        Forms.due(check, "a+b", Calls.over(Calls.with("a+b"), 3, 8, -8, -3), -1, 0, -5, 5, -5, 5, 0, 3, 1, 3);
+        Forms.due(check, "a-b", Calls.over(Calls.with("a-b"), 3, 8, -8, -3), 11, 0, 6, 16, 6, 16, 0, 3, 1, -3);
+        Forms.due(check, "-a", Calls.over(Calls.with("-a"), 3, 8), -5, 0, -8, -3, -8, -3, 0, -3);
+        Forms.due(check, "0.33+0.67", Calls.with("0.33+0.67"), 255, 2, 255, 257, 255, 257);
+        Forms.due(check, "0.33-0.67", Calls.with("0.33-0.67"), -87, 2, -88, -86, -88, -86);
+        Forms.due(check, "-0.33", Calls.with("-0.33"), -84, 1, -85, -84, -85, -84);
     }
 
     private static void products(Check check) {
-        form(check, "a*b", Calls.over(Calls.with("a*b"), 3, 8, -8, -3), -1, 0, -1, 0, -1, 0, 0, -1, 4, 4);
+        Forms.due(check, "a*b", Calls.over(Calls.with("a*b"), 3, 8, -8, -3), -1, 0, -1, 0, -1, 0, 0, -1, 4, 4);
         AffineRanges x = Calls.over(Calls.with("a*b"), 3, 8, -8, -3);
         x.setSymbols(0);
-        form(check, "a*b without names", x, -1, 4, -1, 0, -1, 0, 0, -1);
-        form(check, "0.33*0.67", Calls.with("0.33*0.67"), 56, 0, 56, 58, 56, 58, 4, 2);
-        form(check, "a*b, both signs", Calls.over(Calls.with("a*b"), -512, 256, -256, 768), -128, 0, -1536, 768, -1536, 768, 0, 384, 1, -256, 4, 768);
-        form(check, "a*a", Calls.with("a*a"), 64, 0, 0, 256, 0, 256, 0, 128, 4, 64);
-        form(check, "1*a", Calls.with("1*a"), 128, 0, 0, 256, 0, 256, 0, 128);
-        form(check, "a*0.01", Calls.over(Calls.with("a*0.01"), 100, 100), 0, 0, 0, 2, 0, 2, 4, 2);
-        form(check, "0.33*a, a negative", Calls.over(Calls.with("0.33*a"), -256, -256), -84, 0, -85, -84, -85, -84, 4, 1);
+        Forms.due(check, "a*b without names", x, -1, 4, -1, 0, -1, 0, 0, -1);
+        Forms.due(check, "0.33*0.67", Calls.with("0.33*0.67"), 56, 0, 56, 58, 56, 58, 4, 2);
+        Forms.due(check, "a*b, both signs", Calls.over(Calls.with("a*b"), -512, 256, -256, 768), -128, 0, -1536, 768, -1536, 768, 0, 384, 1, -256, 4, 768);
+        Forms.due(check, "a*a", Calls.with("a*a"), 64, 0, 0, 256, 0, 256, 0, 128, 4, 64);
+        Forms.due(check, "1*a", Calls.with("1*a"), 128, 0, 0, 256, 0, 256, 0, 128);
+        Forms.due(check, "a*0.01", Calls.over(Calls.with("a*0.01"), 100, 100), 0, 0, 0, 2, 0, 2, 4, 2);
+        Forms.due(check, "0.33*a, a negative", Calls.over(Calls.with("0.33*a"), -256, -256), -84, 0, -85, -84, -85, -84, 4, 1);
     }
 
     private static void squares(Check check) {
-        form(check, "a^2", Calls.over(Calls.with("a^2"), 256, 512), 608, 0, 256, 1024, 256, 1024, 0, 384, 4, 32);
-        form(check, "a^2, negative", Calls.over(Calls.with("a^2"), -512, -256), 608, 0, 256, 1024, 256, 1024, 0, -384, 4, 32);
-        form(check, "a^2, small", Calls.over(Calls.with("a^2"), 3, 8), 0, 0, 0, 1, 0, 1, 4, 3);
-        form(check, "0.33^2", Calls.with("0.33^2"), 27, 0, 27, 29, 27, 29, 4, 2);
-        form(check, "a^2 across 0", Calls.over(Calls.with("a^2"), -100, 500), 332, 0, 0, 977, 0, 977, 0, 468, 4, 178);
-        form(check, "a^2 from 0", Calls.with("a^2"), 96, 0, 0, 256, 0, 256, 0, 128, 4, 32);
-        form(check, "a^2 up to 0", Calls.over(Calls.with("a^2"), -256, 0), 96, 0, 0, 256, 0, 256, 0, -128, 4, 32);
-        form(check, "a^2 of a point", Calls.over(Calls.with("a^2"), -15, -15), 0, 0, 0, 1, 0, 1, 4, 1);
-        form(check, "a^3", Calls.over(Calls.with("a^3"), 256, 512), 912, 0, 256, 2048, 256, 2048, 0, 880, 4, 48, 5, 208);
+        Forms.due(check, "a^2", Calls.over(Calls.with("a^2"), 256, 512), 608, 0, 256, 1024, 256, 1024, 0, 384, 4, 32);
+        Forms.due(check, "a^2, negative", Calls.over(Calls.with("a^2"), -512, -256), 608, 0, 256, 1024, 256, 1024, 0, -384, 4, 32);
+        Forms.due(check, "a^2, small", Calls.over(Calls.with("a^2"), 3, 8), 0, 0, 0, 1, 0, 1, 4, 3);
+        Forms.due(check, "0.33^2", Calls.with("0.33^2"), 27, 0, 27, 29, 27, 29, 4, 2);
+        Forms.due(check, "a^2 across 0", Calls.over(Calls.with("a^2"), -100, 500), 332, 0, 0, 977, 0, 977, 0, 468, 4, 178);
+        Forms.due(check, "a^2 from 0", Calls.with("a^2"), 96, 0, 0, 256, 0, 256, 0, 128, 4, 32);
+        Forms.due(check, "a^2 up to 0", Calls.over(Calls.with("a^2"), -256, 0), 96, 0, 0, 256, 0, 256, 0, -128, 4, 32);
+        Forms.due(check, "a^2 of a point", Calls.over(Calls.with("a^2"), -15, -15), 0, 0, 0, 1, 0, 1, 4, 1);
+        Forms.due(check, "a^3", Calls.over(Calls.with("a^3"), 256, 512), 912, 0, 256, 2048, 256, 2048, 0, 880, 4, 48, 5, 208);
     }
 
     private static void quotients(Check check) {
-        form(check, "1/a, negative", Calls.over(Calls.with("1/a"), -512, -128), -320, 0, -512, -128, -512, -128, 4, 192);
-        form(check, "1/a, uneven", Calls.over(Calls.with("1/a"), 3, 7), 15604, 0, 9362, 21846, 9362, 21846, 4, 6242);
-        form(check, "1/a, uneven and negative", Calls.over(Calls.with("1/a"), -7, -3), -15604, 0, -21846, -9362, -21846, -9362, 4, 6242);
-        form(check, "1/a from the least", Calls.over(Calls.with("1/a"), 1, 256), 32896, 0, 256, 65536, 256, 65536, 4, 32640);
-        form(check, "1/a of a point", Calls.over(Calls.with("1/a"), 512, 512), 128, 0, 128, 128, 128, 128);
+        Forms.due(check, "1/a, negative", Calls.over(Calls.with("1/a"), -512, -128), -320, 0, -512, -128, -512, -128, 4, 192);
+        Forms.due(check, "1/a, uneven", Calls.over(Calls.with("1/a"), 3, 7), 15604, 0, 9362, 21846, 9362, 21846, 4, 6242);
+        Forms.due(check, "1/a, uneven and negative", Calls.over(Calls.with("1/a"), -7, -3), -15604, 0, -21846, -9362, -21846, -9362, 4, 6242);
+        Forms.due(check, "1/a from the least", Calls.over(Calls.with("1/a"), 1, 256), 32896, 0, 256, 65536, 256, 65536, 4, 32640);
+        Forms.due(check, "1/a of a point", Calls.over(Calls.with("1/a"), 512, 512), 128, 0, 128, 128, 128, 128);
         // 0 is within the plain range of the divisor, but not within its best range.
-        form(check, "1/(a-a+1)", Calls.with("1/(a-a+1)"), 256, 0, 256, 256, 256, 256);
+        Forms.due(check, "1/(a-a+1)", Calls.with("1/(a-a+1)"), 256, 0, 256, 256, 256, 256);
         int[][] across = {{0, 256}, {-5, 0}, {0, 0}, {-1, 1}};
         for (int[] ends : across) check.due("reason of 1/a from " + ends[0], Calls.over(Calls.with("1/a"), ends).reason(0), 1);
         check.due("reason of 1/a from 1", Calls.over(Calls.with("1/a"), 1, 1).reason(0), 0);
@@ -102,41 +80,41 @@ final class EvaluationTest {
     }
 
     private static void choices(Check check) {
-        form(check, "A(a)", Calls.over(Calls.with("A(a)"), 3, 8), 5, 0, 3, 8, 3, 8, 0, 3);
-        form(check, "A(a) from 0", Calls.over(Calls.with("A(a)"), 0, 8), 4, 0, 0, 8, 0, 8, 0, 4);
-        form(check, "A(a), negative", Calls.over(Calls.with("A(a)"), -8, -3), 6, 0, 3, 8, 3, 8, 0, -3);
-        form(check, "A(a) to 0", Calls.over(Calls.with("A(a)"), -8, 0), 4, 0, 0, 8, 0, 8, 0, -4);
-        form(check, "A(a) across 0", Calls.over(Calls.with("A(a)"), -8, 3), 4, 0, 0, 8, 0, 8, 4, 4);
-        form(check, "A(a) across 0, upwards", Calls.over(Calls.with("A(a)"), -1, 7), 3, 0, 0, 7, 0, 7, 4, 4);
-        form(check, "A(a-a)", Calls.with("A(a-a)"), 0, 0, -256, 256, 0, 0);
-        form(check, "A(0.33)", Calls.with("A(0.33)"), 84, 0, 84, 85, 84, 85, 4, 1);
-        form(check, "L(a,b), apart", Calls.over(Calls.with("L(a,b)"), 0, 256, 256, 512), 128, 0, 0, 256, 0, 256, 0, 128);
-        form(check, "L(a,b), over", Calls.over(Calls.with("L(a,b)"), 0, 256, 255, 512), 128, 0, 0, 256, 0, 256, 4, 128);
-        form(check, "L(b,a), apart", Calls.over(Calls.with("L(b,a)"), 0, 256, 256, 512), 128, 0, 0, 256, 0, 256, 0, 128);
-        form(check, "L(a,b), within", Calls.over(Calls.with("L(a,b)"), 10, 100, -50, 60), 5, 0, -50, 60, -50, 60, 4, 55);
-        form(check, "L of points", Calls.over(Calls.with("L(a,b)"), 7, 7, 7, 7), 7, 0, 7, 7, 7, 7);
-        form(check, "L(0.33,b)", Calls.over(Calls.with("L(0.33,b)"), 0, 0, 256, 512), 84, 0, 84, 85, 84, 85, 4, 1);
-        form(check, "G(a,b), apart", Calls.over(Calls.with("G(a,b)"), 0, 256, 256, 512), 384, 0, 256, 512, 256, 512, 1, 128);
-        form(check, "G(b,a), apart", Calls.over(Calls.with("G(b,a)"), 0, 256, 256, 512), 384, 0, 256, 512, 256, 512, 1, 128);
-        form(check, "G(a,b), over", Calls.over(Calls.with("G(a,b)"), 0, 257, 256, 512), 384, 0, 256, 512, 256, 512, 4, 128);
-        form(check, "G(a,b), within", Calls.over(Calls.with("G(a,b)"), 10, 100, -50, 60), 55, 0, 10, 100, 10, 100, 4, 45);
+        Forms.due(check, "A(a)", Calls.over(Calls.with("A(a)"), 3, 8), 5, 0, 3, 8, 3, 8, 0, 3);
+        Forms.due(check, "A(a) from 0", Calls.over(Calls.with("A(a)"), 0, 8), 4, 0, 0, 8, 0, 8, 0, 4);
+        Forms.due(check, "A(a), negative", Calls.over(Calls.with("A(a)"), -8, -3), 6, 0, 3, 8, 3, 8, 0, -3);
+        Forms.due(check, "A(a) to 0", Calls.over(Calls.with("A(a)"), -8, 0), 4, 0, 0, 8, 0, 8, 0, -4);
+        Forms.due(check, "A(a) across 0", Calls.over(Calls.with("A(a)"), -8, 3), 4, 0, 0, 8, 0, 8, 4, 4);
+        Forms.due(check, "A(a) across 0, upwards", Calls.over(Calls.with("A(a)"), -1, 7), 3, 0, 0, 7, 0, 7, 4, 4);
+        Forms.due(check, "A(a-a)", Calls.with("A(a-a)"), 0, 0, -256, 256, 0, 0);
+        Forms.due(check, "A(0.33)", Calls.with("A(0.33)"), 84, 0, 84, 85, 84, 85, 4, 1);
+        Forms.due(check, "L(a,b), apart", Calls.over(Calls.with("L(a,b)"), 0, 256, 256, 512), 128, 0, 0, 256, 0, 256, 0, 128);
+        Forms.due(check, "L(a,b), over", Calls.over(Calls.with("L(a,b)"), 0, 256, 255, 512), 128, 0, 0, 256, 0, 256, 4, 128);
+        Forms.due(check, "L(b,a), apart", Calls.over(Calls.with("L(b,a)"), 0, 256, 256, 512), 128, 0, 0, 256, 0, 256, 0, 128);
+        Forms.due(check, "L(a,b), within", Calls.over(Calls.with("L(a,b)"), 10, 100, -50, 60), 5, 0, -50, 60, -50, 60, 4, 55);
+        Forms.due(check, "L of points", Calls.over(Calls.with("L(a,b)"), 7, 7, 7, 7), 7, 0, 7, 7, 7, 7);
+        Forms.due(check, "L(0.33,b)", Calls.over(Calls.with("L(0.33,b)"), 0, 0, 256, 512), 84, 0, 84, 85, 84, 85, 4, 1);
+        Forms.due(check, "G(a,b), apart", Calls.over(Calls.with("G(a,b)"), 0, 256, 256, 512), 384, 0, 256, 512, 256, 512, 1, 128);
+        Forms.due(check, "G(b,a), apart", Calls.over(Calls.with("G(b,a)"), 0, 256, 256, 512), 384, 0, 256, 512, 256, 512, 1, 128);
+        Forms.due(check, "G(a,b), over", Calls.over(Calls.with("G(a,b)"), 0, 257, 256, 512), 384, 0, 256, 512, 256, 512, 4, 128);
+        Forms.due(check, "G(a,b), within", Calls.over(Calls.with("G(a,b)"), 10, 100, -50, 60), 55, 0, 10, 100, 10, 100, 4, 45);
         // If both may be taken, it is x.
-        form(check, "L(a-a,0)", Calls.with("L(a-a,0)"), 0, 0, -256, 256, 0, 0);
-        form(check, "G(a-a,0)", Calls.with("G(a-a,0)"), 0, 0, -256, 256, 0, 0);
-        form(check, "L(0,a-a)", Calls.with("L(0,a-a)"), 0, 0, 0, 0, 0, 0);
-        form(check, "G(0,a-a)", Calls.with("G(0,a-a)"), 0, 0, 0, 0, 0, 0);
+        Forms.due(check, "L(a-a,0)", Calls.with("L(a-a,0)"), 0, 0, -256, 256, 0, 0);
+        Forms.due(check, "G(a-a,0)", Calls.with("G(a-a,0)"), 0, 0, -256, 256, 0, 0);
+        Forms.due(check, "L(0,a-a)", Calls.with("L(0,a-a)"), 0, 0, 0, 0, 0, 0);
+        Forms.due(check, "G(0,a-a)", Calls.with("G(0,a-a)"), 0, 0, 0, 0, 0, 0);
     }
 
     private static void roots(Check check) {
-        form(check, "R(a)", Calls.with("R(a)"), 128, 0, 0, 256, 0, 256, 4, 128);
-        form(check, "R(a), uneven", Calls.over(Calls.with("R(a)"), 5, 7), 39, 0, 35, 43, 35, 43, 4, 4);
-        form(check, "R(a) across 0", Calls.over(Calls.with("R(a)"), -5, 7), 21, 0, 0, 43, 0, 43, 4, 22);
-        form(check, "R(a) to 0", Calls.over(Calls.with("R(a)"), -5, 0), 0, 0, 0, 0, 0, 0);
-        form(check, "R(a) of a square", Calls.over(Calls.with("R(a)"), 1024, 1024), 512, 0, 512, 512, 512, 512);
-        form(check, "R(a) of 1", Calls.over(Calls.with("R(a)"), 1, 1), 16, 0, 16, 16, 16, 16);
-        form(check, "R(a) of 2", Calls.over(Calls.with("R(a)"), 2, 2), 22, 0, 22, 23, 22, 23, 4, 1);
+        Forms.due(check, "R(a)", Calls.with("R(a)"), 128, 0, 0, 256, 0, 256, 4, 128);
+        Forms.due(check, "R(a), uneven", Calls.over(Calls.with("R(a)"), 5, 7), 39, 0, 35, 43, 35, 43, 4, 4);
+        Forms.due(check, "R(a) across 0", Calls.over(Calls.with("R(a)"), -5, 7), 21, 0, 0, 43, 0, 43, 4, 22);
+        Forms.due(check, "R(a) to 0", Calls.over(Calls.with("R(a)"), -5, 0), 0, 0, 0, 0, 0, 0);
+        Forms.due(check, "R(a) of a square", Calls.over(Calls.with("R(a)"), 1024, 1024), 512, 0, 512, 512, 512, 512);
+        Forms.due(check, "R(a) of 1", Calls.over(Calls.with("R(a)"), 1, 1), 16, 0, 16, 16, 16, 16);
+        Forms.due(check, "R(a) of 2", Calls.over(Calls.with("R(a)"), 2, 2), 22, 0, 22, 23, 22, 23, 4, 1);
         // 100000^2 / 256 = 39062500; 25 * 39062500 = 976562500, whose root is that of 250000000000.
-        form(check, "R of a great one", Calls.over(Calls.with("R(25*a^2)"), 100000, 100000), 500000, 0, 500000, 500000, 500000, 500000);
+        Forms.due(check, "R of a great one", Calls.over(Calls.with("R(25*a^2)"), 100000, 100000), 500000, 0, 500000, 500000, 500000, 500000);
         check.due("reason of R(a) below 0", Calls.over(Calls.with("R(a)"), -5, -1).reason(0), 2);
         check.due("reason of R(a) at -1", Calls.over(Calls.with("R(a)"), -1, -1).reason(0), 2);
         check.due("reason of R(a) up to 0", Calls.over(Calls.with("R(a)"), -1, 0).reason(0), 0);
@@ -145,31 +123,31 @@ final class EvaluationTest {
     private static void naming(Check check) {
         AffineRanges x = Calls.over(Calls.with("a^3"), 256, 512);
         x.setSymbols(1);
-        form(check, "a^3 with one name", x, 912, 0, 256, 2048, 256, 2048, 0, 880, 4, 256);
+        Forms.due(check, "a^3 with one name", x, 912, 0, 256, 2048, 256, 2048, 0, 880, 4, 256);
         x.setSymbols(2);
-        form(check, "a^3 with two names", x, 912, 0, 256, 2048, 256, 2048, 0, 880, 4, 48, 5, 208);
+        Forms.due(check, "a^3 with two names", x, 912, 0, 256, 2048, 256, 2048, 0, 880, 4, 48, 5, 208);
         x.setSymbols(0);
-        form(check, "a^3 without names", x, 912, 256, 256, 2048, 256, 2048, 0, 880);
+        Forms.due(check, "a^3 without names", x, 912, 256, 256, 2048, 256, 2048, 0, 880);
         AffineRanges even = Calls.over(Calls.with("a^2+b^2+c^2"), 256, 512, 256, 512);
         even.setSymbols(2);
-        form(check, "the lowest of two is condensed", even, 1312, 32, 512, 2304, 512, 2304, 0, 384, 1, 384, 2, 128, 4, 32, 5, 32);
+        Forms.due(check, "the lowest of two is condensed", even, 1312, 32, 512, 2304, 512, 2304, 0, 384, 1, 384, 2, 128, 4, 32, 5, 32);
         AffineRanges odd = Calls.over(Calls.with("a^2+b^2+c^2"), 256, 768, 256, 512);
         odd.setSymbols(2);
-        form(check, "the least is condensed", odd, 1856, 32, 512, 3584, 512, 3584, 0, 1024, 1, 384, 2, 128, 4, 128, 5, 32);
+        Forms.due(check, "the least is condensed", odd, 1856, 32, 512, 3584, 512, 3584, 0, 1024, 1, 384, 2, 128, 4, 128, 5, 32);
         odd.setSymbols(8);
-        form(check, "all have names", odd, 1856, 0, 512, 3584, 512, 3584, 0, 1024, 1, 384, 2, 128, 4, 128, 5, 32, 6, 32);
+        Forms.due(check, "all have names", odd, 1856, 0, 512, 3584, 512, 3584, 0, 1024, 1, 384, 2, 128, 4, 128, 5, 32, 6, 32);
         // A symbol is free again when no form has it any longer.
-        form(check, "a^2-a^2 uses two", Calls.with("a^2-a^2"), 0, 0, -256, 256, -64, 64, 4, 32, 5, -32);
-        form(check, "A(a^2-1)+b^2", Calls.over(Calls.with("A(a^2-1)+b^2"), -300, 300), 224, 0, 0, 512, 0, 512, 1, 128, 4, 128, 5, 32);
+        Forms.due(check, "a^2-a^2 uses two", Calls.with("a^2-a^2"), 0, 0, -256, 256, -64, 64, 4, 32, 5, -32);
+        Forms.due(check, "A(a^2-1)+b^2", Calls.over(Calls.with("A(a^2-1)+b^2"), -300, 300), 224, 0, 0, 512, 0, 512, 1, 128, 4, 128, 5, 32);
         // No name without a loose part, and none for a sum, a difference, a copy or a number.
-        form(check, "0.33+0.33-0.67", Calls.with("0.33+0.33-0.67"), -3, 3, -4, -1, -4, -1);
-        form(check, "a*0.33+b*0.33", Calls.over(Calls.with("a*0.33+b*0.33"), 256, 256, 256, 256), 168, 0, 168, 170, 168, 170, 4, 1, 5, 1);
+        Forms.due(check, "0.33+0.33-0.67", Calls.with("0.33+0.33-0.67"), -3, 3, -4, -1, -4, -1);
+        Forms.due(check, "a*0.33+b*0.33", Calls.over(Calls.with("a*0.33+b*0.33"), 256, 256, 256, 256), 168, 0, 168, 170, 168, 170, 4, 1, 5, 1);
     }
 
     private static void largest(Check check) {
         // 80000^2 / 256 * 10240 / 256 = 1000000000
         AffineRanges x = Calls.over(Calls.with("a^2*b+c"), 80000, 80000, 10240, 10240, 0, 0);
-        form(check, "the largest", x, 1000000000, 0, 1000000000, 1000000000, 1000000000, 1000000000);
+        Forms.due(check, "the largest", x, 1000000000, 0, 1000000000, 1000000000, 1000000000, 1000000000);
         x.setDomain(2, 1, 1);
         check.due("one above the largest", x.reason(0), 3);
         x.setDomain(2, -1, -1);
@@ -177,23 +155,23 @@ final class EvaluationTest {
         Calls.load(x, 0, "-a^2*b+c");
         check.due("one below the least", x.reason(0), 3);
         x.setDomain(2, 0, 0);
-        form(check, "the least", x, -1000000000, 0, -1000000000, -1000000000, -1000000000, -1000000000);
+        Forms.due(check, "the least", x, -1000000000, 0, -1000000000, -1000000000, -1000000000, -1000000000);
         x = Calls.over(Calls.with("a^2*b*d"), 80000, 80000, 10240, 10240, 0, 0, -256, 256);
-        form(check, "the largest radius", x, 0, 0, -1000000000, 1000000000, -1000000000, 1000000000, 3, 1000000000);
+        Forms.due(check, "the largest radius", x, 0, 0, -1000000000, 1000000000, -1000000000, 1000000000, 3, 1000000000);
         // Only the radius, only the upper and only the lower plain end are too large.
         x = Calls.over(Calls.with("a^2*b*d*d"), 80000, 80000, 10240, 10240, 0, 0, 0, 256);
         check.due("the radius below the largest", x.reason(0), 0);
         x = Calls.over(Calls.with("a^2*b*d-a^2*b*d"), 80000, 80000, 10240, 10240, 0, 1, 0, 256);
-        form(check, "the largest ends", x, 0, 0, -1000000000, 1000000000, 0, 0);
+        Forms.due(check, "the largest ends", x, 0, 0, -1000000000, 1000000000, 0, 0);
         Calls.load(x, 0, "a^2*b*d-a^2*b*d+c");
         check.due("an upper end too large", x.reason(0), 3);
         Calls.load(x, 0, "a^2*b*d-a^2*b*d-c");
         check.due("a lower end too large", x.reason(0), 3);
         x = Calls.over(Calls.with("G(a^2*b*d,c)"), 80000, 80000, 10240, 10240, -1, 0, -256, 256);
-        form(check, "G at the largest", x, 499999999, 0, -1, 1000000000, -1, 1000000000, 4, 500000001);
+        Forms.due(check, "G at the largest", x, 499999999, 0, -1, 1000000000, -1, 1000000000, 4, 500000001);
         x = Calls.over(Calls.with("a^4*a^4*a^4"), 90000, 100000);
         check.due("far too large", x.reason(0), 3);
-        form(check, "the widest input", Calls.over(Calls.with("a"), -100000, 100000), 0, 0, -100000, 100000, -100000, 100000, 0, 100000);
+        Forms.due(check, "the widest input", Calls.over(Calls.with("a"), -100000, 100000), 0, 0, -100000, 100000, -100000, 100000, 0, 100000);
     }
 
     private static void reasons(Check check) {
