@@ -9,8 +9,8 @@ import java.util.regex.Pattern;
 final class LanguageTest {
     private static final String[] FORBIDDEN = {
         "\\bthrow\\b", "\\bthrows\\b", "\\btry\\b", "\\bcatch\\b", "\\bfinally\\b", "\\bsynchronized\\b", "\\bassert\\b", "\\bvolatile\\b",
-        "->", "::", "\\bdouble\\b", "\\bfloat\\b", "\\bpackage\\b", "\\bprotected\\b", "Exact\\s*\\(", "\\bSystem\\s*\\.\\s*(?!arraycopy)", "\\bThread\\b",
-        "\\bequals\\s*\\(", "\\bhashCode\\b", "\\btoString\\b", "\\bObject\\b", "\\bvar\\b", "\\b(Integer|Long|Math)\\s*\\.\\s*[A-Z]", "static\\s*\\{", "while\\s*\\(\\s*true", "for\\s*\\(\\s*;",
+        "->", "::", "\\bpackage\\b", "\\bprotected\\b", "Exact\\s*\\(", "\\bSystem\\s*\\.\\s*(?!arraycopy)", "\\bThread\\b",
+        "\\bboolean\\s+equals\\s*\\(", "\\bhashCode\\b", "\\bString\\s+toString\\b", "\\bObject\\b", "\\bvar\\b", "\\b(Integer|Long|Math)\\s*\\.\\s*[A-Z]", "static\\s*\\{", "while\\s*\\(\\s*true", "for\\s*\\(\\s*;",
         "import(?! java\\.util\\.(Arrays|ArrayList|List|Iterator);)",
     };
 

@@ -58,6 +58,26 @@ final class Promise01NewObjectTest {
         check.due("setSymbols(4)", x.setSymbols(4), 4);
     }
 
+    @Says("An object is used for at most 512 calls after it has been made")
+    static void fiveHundredAndTwelveCalls(Check check) {
+        AffineRanges x = new AffineRanges();
+        String text = "a*b*c-b*a*c";
+        for (int i = 0; i < 11; i++) x.say(text.charAt(i));
+        x.load(0);
+        // 12 calls are made, and 499 follow; the last one answers like the first one.
+        for (int i = 0; i < 499; i++) {
+            if (i % 4 == 0) x.prove(0, -1, 200);
+            if (i % 4 == 1) x.tighten(0, 100, 1);
+            if (i % 4 == 2) x.roots(0, 2, 16);
+            if (i % 4 == 3) x.compare(0, 0);
+        }
+        check.due("the 512th call", x.bound(0, 0, 0), boundOf(text));
+    }
+
+    private static long boundOf(String text) {
+        return Calls.with(text).bound(0, 0, 0);
+    }
+
     @Says("proof(0) = -1000000000000000006")
     static void noProof(Check check) {
         AffineRanges x = new AffineRanges();

@@ -88,6 +88,20 @@ final class Promise02SetDomainTest {
         set(check, x, 1, 7, 8, 0);
     }
 
+    @Says("There are four inputs, 0 to 3, written a to d.")
+    static void fourInputs(Check check) {
+        String[] names = {"a", "b", "c", "d"};
+        for (int input = 0; input < 4; input++) {
+            AffineRanges x = Calls.with(names[input]);
+            set(check, x, input, 7, 9, 256);
+            check.due("bound(0, 1, 0) of " + names[input], x.bound(0, 1, 0), 7);
+            check.due("bound(0, 1, 1) of " + names[input], x.bound(0, 1, 1), 9);
+        }
+        AffineRanges x = new AffineRanges();
+        set(check, x, 4, 7, 9, -1);
+        set(check, x, -1, 7, 9, -1);
+    }
+
     @Says("NO_SUCH if there is no such input")
     static void noSuchInput(Check check) {
         AffineRanges x = new AffineRanges();

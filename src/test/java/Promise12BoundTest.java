@@ -23,6 +23,20 @@ final class Promise12BoundTest {
         for (int e : Calls.BAD_NUMBERS) check.due("bound(" + e + ", 0, 0)", x.bound(e, 0, 0), Calls.NO_SUCH);
     }
 
+    @Says("or, if it returns a long, GONE plus the code")
+    static void codesOfALong(Check check) {
+        AffineRanges x = Calls.with("1/a");
+        check.due("bound(1, 0, 0)", x.bound(1, 0, 0), -1000000000000000001L);
+        check.due("bound(0, 3, 0)", x.bound(0, 3, 0), -1000000000000000002L);
+        check.due("bound(0, 0, 0)", x.bound(0, 0, 0), -1000000000000000005L);
+        check.due("part(1, 0)", x.part(1, 0), -1000000000000000001L);
+        check.due("trace(0, 3, 0)", x.trace(0, 3, 0), -1000000000000000001L);
+        check.due("gain(0)", x.gain(0), -1000000000000000005L);
+        check.due("sample(0, 256, 0)", x.sample(0, 256, 0), -1000000000000000002L);
+        check.due("tighten(0, 101, 0)", x.tighten(0, 101, 0), -1000000000000000002L);
+        check.due("proof(0)", x.proof(0), -1000000000000000006L);
+    }
+
     @Says("BAD_VALUE if another argument is out of range")
     static void kindOutOfRange(Check check) {
         AffineRanges x = Calls.with("a");

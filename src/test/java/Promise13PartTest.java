@@ -51,6 +51,15 @@ final class Promise13PartTest {
         for (int e : Calls.BAD_NUMBERS) check.due("part(" + e + ", 12)", x.part(e, 12), Calls.NO_SUCH);
     }
 
+    @Says("Everything is numbered from 0.")
+    static void symbolsFromZero(Check check) {
+        AffineRanges x = Calls.with("a+2*d");
+        check.due("part(0, 0)", x.part(0, 0), 128);
+        check.due("part(0, 3)", x.part(0, 3), 256);
+        check.due("part(0, 4)", x.part(0, 4), 0);
+        check.due("part(0, -1)", x.part(0, -1), Calls.BAD_VALUE);
+    }
+
     @Says("NOT_POSSIBLE if the form is wild.")
     static void wildForms(Check check) {
         AffineRanges x = Calls.with("a+1/b");
@@ -93,6 +102,14 @@ final class Promise13PartTest {
         int[][] ends = {{3, 8}, {-8, -3}, {-7, -3}, {-1, 0}, {0, 1}, {-1, 2}, {-2, 1}, {-100000, 99999}, {-100000, 100000}, {5, 5}, {-5, -5}, {99999, 100000}};
         int[] centers = {5, -6, -5, -1, 0, 0, -1, -1, 0, 5, -5, 99999};
         for (int i = 0; i < ends.length; i++) check.due("center " + i, Calls.over(Calls.with("a"), ends[i]).part(0, 12), centers[i]);
+    }
+
+    @Says("x >> k is x divided by 2 to the power of k, rounded down (also for negative x)")
+    static void negativeCentersAreRoundedDown(Check check) {
+        check.due("center of -8 to -3", Calls.over(Calls.with("a"), -8, -3).part(0, 12), -6);
+        check.due("center of -1 to 0", Calls.over(Calls.with("a"), -1, 0).part(0, 12), -1);
+        check.due("center of -99999 to -99998", Calls.over(Calls.with("a"), -99999, -99998).part(0, 12), -99999);
+        check.due("center of L from -3 to 0", Calls.over(Calls.with("L(a,b)"), -3, 1, -1, 0).part(0, 12), -2);
     }
 
     @Says("the coefficient of its own symbol is the greater one of hi - c and c - lo")

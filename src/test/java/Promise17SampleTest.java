@@ -57,6 +57,16 @@ final class Promise17SampleTest {
         }
     }
 
+    @Says("x >> k is x divided by 2 to the power of k, rounded down (also for negative x)")
+    static void negativeNumbersAreRoundedDown(Check check) {
+        AffineRanges x = Calls.over(Calls.with("c"), 0, 0, 0, 0, -2, -1);
+        sample(check, x, 32, -2);
+        sample(check, x, 48, -2);
+        x.setDomain(2, -5, -4);
+        sample(check, x, 32, -5);
+        sample(check, x, 48, -5);
+    }
+
     @Says("0 lo, 1 hi, 2 (lo + hi) >> 1, 3 (3 * lo + hi) >> 2")
     static void numbersOfWideDomains(Check check) {
         int[][] rows = {{-100000, 100000, 0, -50000}, {99999, 100000, 99999, 99999}, {-100000, -99999, -100000, -100000}, {100000, 100000, 100000, 100000}, {0, 100000, 50000, 25000}};

@@ -44,6 +44,23 @@ final class Promise19ProveTest {
         for (int e : Calls.BAD_NUMBERS) check.due("prove(" + e + ", 0, 1)", x.prove(e, 0, 1), -1);
     }
 
+    @Says("BAD_VALUE if another argument is out of range.")
+    static void outOfRange(Check check) {
+        AffineRanges x = Calls.with("a");
+        check.due("prove(0, 1000001, 200)", x.prove(0, 1000001, 200), -2);
+        check.due("prove(0, -1000001, 200)", x.prove(0, -1000001, 200), -2);
+        check.due("prove(0, 1000000, 201)", x.prove(0, 1000000, 201), -2);
+        check.due("prove(0, -1000000, 0)", x.prove(0, -1000000, 0), -2);
+        check.due("prove(0, 1000000, 200)", x.prove(0, 1000000, 200), REFUTED);
+        check.due("prove(0, -1000000, 1)", x.prove(0, -1000000, 1), PROVED);
+    }
+
+    @Says("There is a list of boxes, at first the whole box alone.")
+    static void theWholeBoxFirst(Check check) {
+        AffineRanges x = over("a", -5, 9, -6, 10, -7, 11, -8, 12);
+        prove(check, x, -6, 1, PROVED, 1, -5, -6, -7, -8, 9, 10, 11, 12);
+    }
+
     @Says("it names its errors in the order in which they are checked, and the first that applies is returned")
     static void orderOfErrors(Check check) {
         AffineRanges x = Calls.with("a");

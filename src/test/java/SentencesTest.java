@@ -27,17 +27,23 @@ final class SentencesTest {
         check.due("promises with tests", CLASSES.length, PROMISES);
         String document = Files.isReadable(DOCUMENT) ? Files.readString(DOCUMENT) : null;
         if (document == null) System.out.println("Sentences: " + DOCUMENT + " is not there, so the quotations are not looked up");
+        StringBuilder counts = new StringBuilder();
         for (int i = 0; i < CLASSES.length; i++) {
+            int tests = 0;
             check.that(CLASSES[i].getName() + " is in its place", promiseOf(CLASSES[i]) == i + 1);
             Method[] methods = CLASSES[i].getDeclaredMethods();
             Arrays.sort(methods, Comparator.comparing(Method::getName));
             for (Method method : methods) {
                 Says says = method.getAnnotation(Says.class);
                 if (says == null) continue;
+                tests++;
                 test(check, method, says.value());
                 if (document != null) quotation(check, document, method, says.value());
             }
+            check.that(CLASSES[i].getName() + " has no test", tests > 0);
+            counts.append(i == 0 ? "" : ", ").append(i + 1).append(": ").append(tests);
         }
+        System.out.println("Sentences: tests of each promise " + counts);
     }
 
     private static int promiseOf(Class<?> tests) {
