@@ -297,6 +297,32 @@ final class Promise12BoundTest {
         plain(check, "L(a-a+1,b)", 0, 256, 0, 256, 0, 512);
     }
 
+    @Says("otherwise plain from the lesser one of l and m to the lesser one of u and n.")
+    static void leastOfTheBestRanges(Check check) {
+        // The best range of a - a + 0.5 is from 128 to 128, the plain one from -128 to 384.
+        plain(check, "L(a-a+0.5,b)", 0, 128);
+        plain(check, "L(b,a-a+0.5)", 0, 128);
+        plain(check, "L(a-a-0.5,b)", -200, -128, 0, 256, -200, 0);
+        plain(check, "L(b,a-a-0.5)", -200, -128, 0, 256, -200, 0);
+        // The best range of a * b is from 0 to 256, the affine one from -128; that of -a * b is from -256 to 0, the affine one to 128.
+        plain(check, "L(a*b,c)", 0, 100, 0, 256, 0, 256, 0, 100);
+        plain(check, "L(c,a*b)", 0, 100, 0, 256, 0, 256, 0, 100);
+        plain(check, "L(-a*b,c)", -256, 0, 0, 256, 0, 256, -100, 64);
+        plain(check, "L(c,-a*b)", -256, 0, 0, 256, 0, 256, -100, 64);
+    }
+
+    @Says("otherwise plain from the greater one of l and m to the greater one of u and n.")
+    static void greatestOfTheBestRanges(Check check) {
+        plain(check, "G(a-a+0.5,b)", 128, 256);
+        plain(check, "G(b,a-a+0.5)", 128, 256);
+        plain(check, "G(a-a-0.5,b)", -128, 0, 0, 256, -200, 0);
+        plain(check, "G(b,a-a-0.5)", -128, 0, 0, 256, -200, 0);
+        plain(check, "G(a*b,c)", 0, 256, 0, 256, 0, 256, -64, 100);
+        plain(check, "G(c,a*b)", 0, 256, 0, 256, 0, 256, -64, 100);
+        plain(check, "G(-a*b,c)", -100, 0, 0, 256, 0, 256, -100, -50);
+        plain(check, "G(c,-a*b)", -100, 0, 0, 256, 0, 256, -100, -50);
+    }
+
     @Says("otherwise plain from the greater one of l and m to the greater one of u and n.")
     static void greatestOfTwo(Check check) {
         plain(check, "G(a,b)", 10, 100, 10, 100, -50, 60);

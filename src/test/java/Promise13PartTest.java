@@ -327,6 +327,8 @@ final class Promise13PartTest {
     static void absoluteValuesByTheBestRange(Check check) {
         form(check, "A(a-a)", over(), 0, 0, -256, 256, 0, 0);
         form(check, "A(a-a-1)", over(), 256, 0, 0, 512, 256, 256);
+        form(check, "A(a-a+0.5)", over(), 128, 0, -128, 384, 128, 128);
+        form(check, "A(a-a-0.5)", over(), 128, 0, -128, 384, 128, 128);
         // The affine range of a * b is from -128, its plain one from 0.
         form(check, "A(a*b)", over(), 64, 0, 0, 256, 0, 256, 0, 64, 1, 64, 4, 64);
         form(check, "A(-a*b)", over(), 64, 0, 0, 256, 0, 256, 0, 64, 1, 64, 4, 64);
@@ -367,6 +369,8 @@ final class Promise13PartTest {
         // The best range of a - a is from 0 to 0, its plain one from -256 to 256; the affine range of a * b is from -128.
         form(check, "L(a-a,b)", over(), 0, 0, -256, 256, 0, 0);
         form(check, "L(b,a-a)", over(), 0, 0, -256, 256, 0, 0);
+        form(check, "L(a-a,-b)", over(), -128, 0, -256, 0, -256, 0, 1, -128);
+        form(check, "L(-b,a-a)", over(), -128, 0, -256, 0, -256, 0, 1, -128);
         form(check, "L(0,a*b)", over(), 0, 0, 0, 0, 0, 0);
         form(check, "L(a*b,0)", over(), 0, 0, 0, 0, 0, 0);
     }
@@ -375,6 +379,8 @@ final class Promise13PartTest {
     static void greatestByTheBestRanges(Check check) {
         form(check, "G(a-a,-b)", over(), 0, 0, -256, 256, 0, 0);
         form(check, "G(-b,a-a)", over(), 0, 0, -256, 256, 0, 0);
+        form(check, "G(a-a,b)", over(), 128, 0, 0, 256, 0, 256, 1, 128);
+        form(check, "G(b,a-a)", over(), 128, 0, 0, 256, 0, 256, 1, 128);
         form(check, "G(0,-a*b)", over(), 0, 0, 0, 0, 0, 0);
         form(check, "G(-a*b,0)", over(), 0, 0, 0, 0, 0, 0);
     }

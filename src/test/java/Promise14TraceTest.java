@@ -91,19 +91,35 @@ final class Promise14TraceTest {
         check.due("trace(0, 7, 0)", x.trace(0, 7, 0), Calls.NO_SUCH);
     }
 
-    @Says("A wild form counts as one without coefficients.")
-    static void namesBesideAWildForm(Check check) {
-        // The wild form stays until the last step; a ^ 2 and b ^ 2 are 192 + 64 + .., and their names are free symbols.
-        AffineRanges x = Calls.over(Calls.with("(c^2)/0+(a*a-b*b)*a"), 3, 97, 5, 99, 0, 50000);
-        AffineRanges y = Calls.over(Calls.with("(a*a-b*b)*a"), 3, 97, 5, 99, 0, 50000);
+    /** The second term's forms are the same without the wild form that waits beside them. */
+    private static void besideAWildForm(Check check, String wild, String other, int... ends) {
+        AffineRanges x = Calls.over(Calls.with(wild + "+(" + other + ")"), ends);
+        AffineRanges y = Calls.over(Calls.with(other), ends);
+        int first = Calls.with(wild).step(0, -1, 0);
+        int steps = y.step(0, -1, 0);
+        check.due("trace of " + wild, x.trace(0, first - 1, 0), Calls.NOT_POSSIBLE);
         for (int symbols = 0; symbols <= 8; symbols++) {
             x.setSymbols(symbols);
             y.setSymbols(symbols);
-            for (int i = 0; i < 9; i++) {
-                check.due(symbols + " symbols: trace(0, " + (4 + i) + ", 0)", x.trace(0, 4 + i, 0), y.trace(0, i, 0));
-                check.due(symbols + " symbols: trace(0, " + (4 + i) + ", 1)", x.trace(0, 4 + i, 1), y.trace(0, i, 1));
+            for (int i = 0; i < steps; i++) {
+                check.due(wild + "+(" + other + "), " + symbols + " symbols: trace(0, " + (first + i) + ", 0)", x.trace(0, first + i, 0), y.trace(0, i, 0));
+                check.due(wild + "+(" + other + "), " + symbols + " symbols: trace(0, " + (first + i) + ", 1)", x.trace(0, first + i, 1), y.trace(0, i, 1));
             }
         }
+    }
+
+    @Says("A wild form counts as one without coefficients.")
+    static void namesBesideAWildForm(Check check) {
+        // Each of the wild forms would have had coefficients of symbols that may be used.
+        besideAWildForm(check, "99*a^4", "a+b^3*a", -90000, 100000, -97, -87);
+        besideAWildForm(check, "99*a^4", "b-b^3*b", -90000, 100000, 83, 208);
+        besideAWildForm(check, "99*a^4", "d^4*a-a", -90000, 100000, -50000, 60000, -114, -113, -281, -280);
+        besideAWildForm(check, "a^4*c", "b-b*c^4", -90000, 100000, -50000, 60000, -126, -111);
+        besideAWildForm(check, "(a*b)^4", "b-b^4*b", -90000, 100000, 151, 173);
+        besideAWildForm(check, "(c^2)/0", "(a*a-b*b)*a", 3, 97, 5, 99, 0, 50000);
+        AffineRanges x = Calls.over(Calls.with("99*a^4+(a+b^3*a)"), -90000, 100000, -97, -87);
+        x.setSymbols(2);
+        trace(check, x, 12, -88912, 98442);
     }
 
     @Says("it names its errors in the order in which they are checked, and the first that applies is returned")

@@ -120,6 +120,9 @@ final class Promise19ProveTest {
         prove(check, x, 85, 1, REFUTED, 1);
         prove(check, x, 84, 1, OPEN, 1);
         prove(check, x, 83, 1, PROVED, 1);
+        // 0.33 - 0.33 is plain from -1 to 1, affine from -2 to 2.
+        prove(check, Calls.with("0.33-0.33"), 1, 1, REFUTED, 1);
+        prove(check, Calls.with("0.33-0.33"), 0, 1, OPEN, 1);
         // Not the lower end of the box, but its middle, rounded down: -6 of -8 to -3.
         x = over("a", -8, -3);
         prove(check, x, -6, 1, REFUTED, 1);
