@@ -719,7 +719,7 @@ public final class AffineRanges {
             return low <= 0 && high >= 0;
         }
 
-        /** The absolute value of a coefficient. */
+        /** What a symbol weighs; a wild form counts as one without coefficients. */
         long weight(int symbol) {
             return why != 0 ? 0 : Math.abs(coefficients[symbol]);
         }
@@ -941,6 +941,7 @@ public final class AffineRanges {
                 case ROOT:
                     return 1;
                 case COPY:
+                    // Its operand waits on, for the MULTIPLY by the square of the copy.
                     return 0;
                 default:
                     return kind < ADD ? 0 : 2;

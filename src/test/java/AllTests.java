@@ -9,7 +9,7 @@ public final class AllTests {
             System.out.println("AllTests: the path of AffineRanges.java is wanted");
             System.exit(1);
         }
-        String[] groups = {"Examples", "Sentences", "Inputs", "Texts", "Evaluation", "Splitting", "Saving", "Face", "Language", "Room", "Model"};
+        String[] groups = {"Examples", "Sentences", "Inputs", "Texts", "Evaluation", "Splitting", "Saving", "Face", "Language", "CallGraph", "Room", "Readme", "Model"};
         int wrong = 0;
         for (String group : groups) {
             Check check = new Check(group);
@@ -31,7 +31,9 @@ public final class AllTests {
             case "Saving": SavingTest.run(check); break;
             case "Face": FaceTest.run(check); break;
             case "Language": LanguageTest.run(check, source); break;
+            case "CallGraph": CallGraphTest.run(check, source); break;
             case "Room": RoomTest.run(check); break;
+            case "Readme": ReadmeTest.run(check); break;
             default: ModelTest.run(check); break;
         }
     }
